@@ -1,0 +1,143 @@
+import java.util.ArrayList;
+import java.util.List;
+
+/** Counts the answers that are not as due, and tells them. */
+abstract class Expect {
+    static final int NONE = MoodSextant.NONE;
+    static final int BAD = MoodSextant.BAD;
+    static final int STATE = MoodSextant.STATE;
+    static final int FULL = MoodSextant.FULL;
+    static final int REFUSED = MoodSextant.REFUSED;
+    static final int NOTHING = MoodSextant.NOTHING;
+
+    private static int wrong;
+    private static int seen;
+
+    static void due(String call, long got, long want) {
+        seen++;
+        if (got != want) {
+            tell(call, Long.toString(got), Long.toString(want));
+        }
+    }
+
+    static void due(String call, boolean got, boolean want) {
+        seen++;
+        if (got != want) {
+            tell(call, Boolean.toString(got), Boolean.toString(want));
+        }
+    }
+
+    static void due(String call, String got, String want) {
+        seen++;
+        if (!got.equals(want)) {
+            tell(call, got, want);
+        }
+    }
+
+    /** To the bit, so that a negative zero is told from zero. */
+    static void dueDouble(String call, double got, double want) {
+        seen++;
+        if (Double.doubleToLongBits(got) != Double.doubleToLongBits(want)) {
+            tell(call, Double.toString(got), Double.toString(want));
+        }
+    }
+
+    static void dueFloatBits(String call, int got, float want) {
+        due(call, got, (long) Float.floatToIntBits(want));
+    }
+
+    private static void tell(String call, String got, String want) {
+        wrong++;
+        if (wrong <= 40) {
+            System.out.println("  " + call + " answered " + got + ", due is " + want);
+        }
+    }
+
+    static int wrong() {
+        return wrong;
+    }
+
+    static void finish() {
+        if (seen == 0) {
+            System.out.println("  nothing was looked at");
+        }
+        if (wrong > 0) {
+            System.out.println("  " + wrong + " of " + seen + " answers are not as due");
+        }
+        if (wrong > 0 || seen == 0) {
+            System.exit(1);
+        }
+    }
+
+    static MoodSextant shipOf(int... moods) {
+        MoodSextant ship = new MoodSextant();
+        for (int mood : moods) {
+            ship.sail(mood);
+        }
+        return ship;
+    }
+
+    static void hours(MoodSextant ship, int many) {
+        for (int hour = 0; hour < many; hour++) {
+            ship.hour();
+        }
+    }
+
+    static int read(MoodSextant ship, String text) {
+        for (int index = 0; index < text.length(); index++) {
+            ship.append(text.charAt(index));
+        }
+        return ship.read();
+    }
+
+    /** The line that stands, sign by sign. */
+    static String line(MoodSextant ship) {
+        StringBuilder line = new StringBuilder();
+        for (int index = 0; ship.written(index) != NONE && index < 1000; index++) {
+            line.append((char) ship.written(index));
+        }
+        return line.toString();
+    }
+
+    static void dueReason(String call, MoodSextant ship, int number, int detail) {
+        due(call + ": reason(0, false)", ship.reason(0, false), number);
+        due(call + ": reason(0, true)", ship.reason(0, true), detail);
+        due(call + ": reason(1, false)", ship.reason(1, false), NOTHING);
+        due(call + ": reason(1, true)", ship.reason(1, true), NOTHING);
+    }
+
+    static void dueReasons(String call, MoodSextant ship, int command, int number, int detail) {
+        due(call + ": reason(0, false)", ship.reason(0, false), 5);
+        due(call + ": reason(0, true)", ship.reason(0, true), command);
+        due(call + ": reason(1, false)", ship.reason(1, false), number);
+        due(call + ": reason(1, true)", ship.reason(1, true), detail);
+    }
+
+    /** Everything that can be undone, as far as the face tells it. */
+    static List<Long> view(MoodSextant ship) {
+        List<Long> view = new ArrayList<>();
+        for (int what = 0; what <= 8; what++) {
+            view.add((long) ship.account(what));
+        }
+        for (int sailor = 0; sailor < 8; sailor++) {
+            for (int what = 0; what <= 8; what++) {
+                view.add((long) ship.sailorOf(sailor, what));
+            }
+        }
+        for (int watch = 0; watch < 4; watch++) {
+            for (int what = 0; what <= 3; what++) {
+                view.add((long) ship.watchOf(watch, what));
+            }
+        }
+        for (int sight = 0; sight < 10; sight++) {
+            for (int what = 0; what <= 2; what++) {
+                view.add((long) ship.sightOf(sight, what));
+            }
+        }
+        return view;
+    }
+
+    static void dueView(String call, MoodSextant ship, List<Long> want) {
+        due(call + ": the view", view(ship).toString(), want.toString());
+    }
+}
