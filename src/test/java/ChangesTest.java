@@ -81,6 +81,7 @@ public final class ChangesTest extends Expect {
         due("3: mood of the earlier", x.sailorOf(0, 0), 10);
         due("3: gone", x.sailorOf(2, 0), NONE);
         due("3: taken ashore", x.account(8), 2);
+        due("3: cups that are left", x.account(5), 4);
         due("3: given", x.account(6), 6);
         due("3: drunk", x.account(7), 0);
         due("3: shore(0)", x.shore(0), 1);
@@ -91,7 +92,7 @@ public final class ChangesTest extends Expect {
     }
 
     private static void promise3Log() {
-        MoodSextant x = shipOf(1, 2, 3);
+        MoodSextant x = shipOf(0x0001, 0x000f, 0xff00);
         x.sight(0);
         x.sight(1);
         x.sight(2);
@@ -99,7 +100,9 @@ public final class ChangesTest extends Expect {
         x.sight(1);
         x.sight(2);
         int bits = x.sightOf(0, 2);
+        int bitsBefore = x.sightOf(2, 2);
         x.shore(1);
+        due("3: the bits move, too", x.sightOf(1, 2), bitsBefore);
         due("3: sights", x.account(3), 3);
         due("3: taken stay", x.account(4), 5);
         due("3: less", x.sightOf(0, 0), 1);

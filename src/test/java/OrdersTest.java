@@ -30,6 +30,10 @@ public final class OrdersTest extends Expect {
         x.rum(0, 4);
         due("25: the same angle, less cheer", x.highest(1), 1);
         due("25: the same angle, less cheer", x.highest(2), 0);
+        MoodSextant y = shipOf(0x0001, 0x0000, 0x00ff);
+        y.shore(2);
+        due("25: who is gone has no place", y.highest(0), 0);
+        due("25: who is gone has no place", y.highest(2), NONE);
     }
 
     private static void promise26() {
@@ -65,6 +69,10 @@ public final class OrdersTest extends Expect {
         due("27: the first four", x.packed(), 0xfedc12348001ffffL);
         x.shore(0);
         due("27: moved", x.packed(), 0x7777fedc12348001L);
+        due("27: the fifth is left out", shipOf(0, 0, 0, 0, 0xffff, 0xffff, 0xffff, 0xffff).packed(), 0L);
+        MoodSextant y = shipOf(1, 2, 3);
+        y.shore(2);
+        due("27: who is gone is left out", y.packed(), 0x20001L);
     }
 
     private static void promise28() {
@@ -109,6 +117,8 @@ public final class OrdersTest extends Expect {
         x.rum(3, 9);
         x.horizon(0, 0);
         dueDouble("29: with the rum", x.meanAngle(), 14.0 / 4.0);
+        x.shore(3);
+        dueDouble("29: who is gone is left out", x.meanAngle(), 13.0 / 3.0);
     }
 
     private static void promise30() {

@@ -38,6 +38,8 @@ public final class TextsTest extends Expect {
         x.mood(1, 0x9999);
         x.horizon(0, 0);
         dueWritten("31", x, x.write(1), "9999@0>0");
+        x.rum(1, 1);
+        dueWritten("31: a cup", x, x.write(1), "9999*1@0>1");
     }
 
     private static void promise32() {
@@ -103,6 +105,11 @@ public final class TextsTest extends Expect {
         due("35: mood", x.sailorOf(1, 0), 0xfed9);
         due("35: mood", read(x, "mood 1 1234"), 1);
         due("35: mood", x.sailorOf(1, 0), 0x1234);
+        due("35: all hexes", read(x, "mood 1 abcd;mood 1 1234;mood 1 1234"), REFUSED);
+        dueReasons("35: all hexes", x, 2, 2, 0x1234);
+        due("35: all hexes", read(x, "mood 1 abcd;mood 2 ef09"), 2);
+        due("35: mood", x.sailorOf(1, 0), 0xabcd);
+        due("35: mood", x.sailorOf(2, 0), 0xef09);
         due("35: rum", read(x, "rum 1 9;rum 0 1"), 2);
         due("35: rum", x.sailorOf(1, 1), 9);
         due("35: rum", x.sailorOf(0, 1), 1);
