@@ -79,6 +79,11 @@ public final class QueriesTest extends Expect {
         due("12: dread", x.watchOf(0, 3), 5);
         due("12: cheer", x.watchOf(2, 2), 8);
         due("12: dread", x.watchOf(2, 3), 1);
+        MoodSextant y = shipOf(0x0101, 0xffff);
+        y.shore(1);
+        due("12: who is gone is left out", y.watchOf(0, 1), 1);
+        due("12: who is gone is left out", y.watchOf(0, 2), 1);
+        due("12: who is gone is left out", y.watchOf(0, 3), 1);
         due("12: empty", x.watchOf(3, 1), 0);
         due("12: empty", x.watchOf(3, 2), 0);
         due("12: empty", x.watchOf(3, 3), 0);
@@ -138,6 +143,29 @@ public final class QueriesTest extends Expect {
             dueFloatBits("15: cups " + cups, x.readBits(2), (cups + 3) / 4f - cups / 8f);
         }
         due("15: not taken", x.account(3), 0);
+        promise15All();
+    }
+
+    /** Every angle from -16 to 17, with every error and all rum that fits it. */
+    private static void promise15All() {
+        for (int cups = 0; cups <= 9; cups++) {
+            MoodSextant x = shipOf(0);
+            if (cups > 0) {
+                x.rum(0, cups);
+            }
+            for (int cheer = -8; cheer <= 8; cheer++) {
+                x.mood(0, cheer < 0 ? 0xff00 & 0xff00 << 8 + cheer : (1 << cheer) - 1);
+                for (int horizon = 0; horizon <= 8; horizon += 8) {
+                    x.horizon(0, horizon);
+                    int angle = x.sailorOf(0, 5);
+                    due("15: the angle", angle, cups + x.sailorOf(0, 3) - x.sailorOf(0, 4) - horizon);
+                    for (int error = -3; error <= 3; error++) {
+                        x.error(error);
+                        dueFloatBits("15: of " + angle, x.readBits(0), (angle + error) / 4f - cups / 8f);
+                    }
+                }
+            }
+        }
     }
 
     private static void promise16and17() {
