@@ -1,5 +1,8 @@
+import java.lang.reflect.InvocationTargetException;
+import java.lang.reflect.Method;
 import java.util.ArrayList;
 import java.util.List;
+import java.util.function.IntSupplier;
 
 /** Counts the answers that are not as due, and tells them. */
 abstract class Expect {
@@ -12,6 +15,29 @@ abstract class Expect {
 
     private static int wrong;
     private static int seen;
+    private static String test = "";
+
+    /** The tests of a class are its methods with names like "promise2NinthIsRefused". */
+    static List<Method> testsOf(Class<?> tests) {
+        List<Method> found = new ArrayList<>();
+        for (Method method : tests.getDeclaredMethods()) {
+            if (method.getName().matches("promise[0-9]+[A-Z].*") && method.getParameterCount() == 0) {
+                found.add(method);
+            }
+        }
+        return found;
+    }
+
+    /** Runs them all, so that none is forgotten. */
+    static void run(Class<?> tests) throws IllegalAccessException, InvocationTargetException {
+        for (Method method : testsOf(tests)) {
+            test = method.getName() + ": ";
+            int before = seen;
+            method.invoke(null);
+            due("it looks at something", seen > before, true);
+        }
+        test = "";
+    }
 
     static void due(String call, long got, long want) {
         seen++;
@@ -49,7 +75,7 @@ abstract class Expect {
     private static void tell(String call, String got, String want) {
         wrong++;
         if (wrong <= 40) {
-            System.out.println("  " + call + " answered " + got + ", due is " + want);
+            System.out.println("  " + test + call + " answered " + got + ", due is " + want);
         }
     }
 
@@ -113,23 +139,21 @@ abstract class Expect {
         due(call + ": reason(1, true)", ship.reason(1, true), detail);
     }
 
-    /** Everything that can be undone, as far as the face tells it. */
+    /** Everything that can be undone, in few calls: what is not here can be worked out from it. */
     static List<Long> view(MoodSextant ship) {
         List<Long> view = new ArrayList<>();
         for (int what = 0; what <= 8; what++) {
             view.add((long) ship.account(what));
         }
-        for (int sailor = 0; sailor < 8; sailor++) {
-            for (int what = 0; what <= 8; what++) {
+        for (int sailor = 0; sailor < ship.account(0); sailor++) {
+            for (int what = 0; what <= 2; what++) {
                 view.add((long) ship.sailorOf(sailor, what));
             }
         }
         for (int watch = 0; watch < 4; watch++) {
-            for (int what = 0; what <= 3; what++) {
-                view.add((long) ship.watchOf(watch, what));
-            }
+            view.add((long) ship.watchOf(watch, 0));
         }
-        for (int sight = 0; sight < 10; sight++) {
+        for (int sight = 0; sight < ship.account(3); sight++) {
             for (int what = 0; what <= 2; what++) {
                 view.add((long) ship.sightOf(sight, what));
             }
@@ -139,5 +163,14 @@ abstract class Expect {
 
     static void dueView(String call, MoodSextant ship, List<Long> want) {
         due(call + ": the view", view(ship).toString(), want.toString());
+    }
+
+    /** The call answers the error, and neither the ship nor its changes become otherwise. */
+    static void dueError(String call, MoodSextant ship, int error, IntSupplier act) {
+        List<Long> before = view(ship);
+        int changes = ship.account(10);
+        due(call, act.getAsInt(), error);
+        dueView(call, ship, before);
+        due(call + ": changes", ship.account(10), changes);
     }
 }
