@@ -222,6 +222,18 @@ public final class ChangesEdgesTest extends Expect {
         due("sightOf(2, 0)", x.sightOf(2, 0), NONE);
     }
 
+    static void promise3SightsThatStayKeepTheirHours() {
+        MoodSextant x = shipOf(1, 2);
+        x.sight(1);
+        x.hour();
+        x.sight(0);
+        x.sight(1);
+        x.shore(0);
+        due("the latest one", x.sightOf(0, 1), 1);
+        due("the one before it", x.sightOf(1, 1), 0);
+        due("sightOf(2, 1)", x.sightOf(2, 1), NONE);
+    }
+
     static void promise3WhoWasSightedStaysSighted() {
         MoodSextant x = shipOf(1, 2);
         x.sight(1);

@@ -1,8 +1,8 @@
 import java.util.Random;
 
-/** Runs of up to 512 calls by chance, always the same ones, against the model. */
+/** Runs of calls by chance, always the same ones, against the model; none has more than 512 calls. */
 public final class ModelTest extends Expect {
-    private static final int RUNS = 1500;
+    private static final int RUNS = 2000;
     private static final String[] CHANGES = {"sail", "sail", "shore", "mood", "rum", "rum", "watch", "horizon", "error",
         "sight", "sight", "sight", "sight", "hour", "hour", "hour"};
 
@@ -30,7 +30,8 @@ public final class ModelTest extends Expect {
     }
 
     private void go() {
-        while (calls < 500 && wrong() == 0) {
+        // A text takes up to some seventy calls, and a line twice as many as it has characters.
+        while (calls < 370 && wrong() == 0) {
             int kind = random.nextInt(100);
             if (kind < 45) {
                 change();
@@ -184,5 +185,6 @@ public final class ModelTest extends Expect {
         int index = random.nextInt(12) - 1;
         same("written", x.written(index), model.written(index));
         due("run " + run + ": line", line(x), model.line);
+        calls += 2 * model.line.length() + 1;
     }
 }

@@ -319,6 +319,26 @@ public final class QueriesEdgesTest extends Expect {
         dueFloatBits("an eighth below", x.readBits(2), -0.125f);
     }
 
+    static void promise15PowersOfTwo() {
+        MoodSextant x = shipOf(0x00ff);
+        x.horizon(0, 0);
+        dueFloatBits("two", x.readBits(0), 2.0f);
+        x.horizon(0, 4);
+        dueFloatBits("one", x.readBits(0), 1.0f);
+        x.horizon(0, 6);
+        dueFloatBits("a half", x.readBits(0), 0.5f);
+        x.horizon(0, 7);
+        dueFloatBits("a quarter", x.readBits(0), 0.25f);
+        x.mood(0, 0x0f00);
+        x.horizon(0, 0);
+        dueFloatBits("one below nought", x.readBits(0), -1.0f);
+        x.horizon(0, 4);
+        dueFloatBits("two below nought", x.readBits(0), -2.0f);
+        x.mood(0, 0xff00);
+        x.horizon(0, 8);
+        dueFloatBits("four below nought", x.readBits(0), -4.0f);
+    }
+
     static void promise15NothingIsTaken() {
         MoodSextant x = shipOf(1);
         x.readBits(0);

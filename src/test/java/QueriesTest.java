@@ -149,11 +149,11 @@ public final class QueriesTest extends Expect {
     /** Every angle from -16 to 17, with every error and all rum that fits it. */
     private static void promise15All() {
         for (int cups = 0; cups <= 9; cups++) {
-            MoodSextant x = shipOf(0);
-            if (cups > 0) {
-                x.rum(0, cups);
-            }
             for (int cheer = -8; cheer <= 8; cheer++) {
+                MoodSextant x = shipOf(0);
+                if (cups > 0) {
+                    x.rum(0, cups);
+                }
                 x.mood(0, cheer < 0 ? 0xff00 & 0xff00 << 8 + cheer : (1 << cheer) - 1);
                 for (int horizon = 0; horizon <= 8; horizon += 8) {
                     x.horizon(0, horizon);

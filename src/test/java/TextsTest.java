@@ -198,6 +198,7 @@ public final class TextsTest extends Expect {
             "horizon 0 1", "error 1", "error -1", "hour"};
         for (String text : texts) {
             for (int length = 0; length < text.length(); length++) {
+                x = shipOf(1);
                 dueFault(x, text.substring(0, length), length);
                 dueFault(x, text.substring(0, length) + "~", length);
                 dueFault(x, "hour;" + text.substring(0, length) + "!" + text, 5 + length);

@@ -45,19 +45,22 @@ public final class UndoTest extends Expect {
         dueView("38: nothing changes", x, views.get(2));
     }
 
-    /** Each kind of change alone, with its undo. */
+    /** Each kind of change behind those before it, with its undo. */
     private static void promise38Each() {
-        MoodSextant x = new MoodSextant();
-        for (int step = 0; step < 10; step++) {
+        for (int last = 0; last < 10; last++) {
+            MoodSextant x = new MoodSextant();
+            for (int step = 0; step < last; step++) {
+                change(x, step);
+            }
             List<Long> before = view(x);
-            change(x, step);
+            change(x, last);
             List<Long> after = view(x);
             due("38: it changes", before.equals(after), false);
             int kept = x.account(10);
             due("38: undo", x.undo(), kept - 1);
-            dueView("38: undone " + step, x, before);
-            change(x, step);
-            dueView("38: again " + step, x, after);
+            dueView("38: undone " + last, x, before);
+            change(x, last);
+            dueView("38: again " + last, x, after);
             due("38: counted", x.isCounted(), true);
         }
         MoodSextant y = new MoodSextant();
